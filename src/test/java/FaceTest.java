@@ -1,0 +1,95 @@
+import java.io.IOException;
+import java.lang.reflect.Constructor;
+import java.lang.reflect.Field;
+import java.lang.reflect.Method;
+import java.lang.reflect.Modifier;
+import java.nio.file.Files;
+import java.nio.file.Path;
+import java.util.Arrays;
+import java.util.Set;
+import java.util.TreeSet;
+import java.util.regex.Matcher;
+import java.util.regex.Pattern;
+
+/** The public face of the document, and what ../shared/LANGUAGE.md says that can be looked up. */
+public final class FaceTest {
+    private static final Due DUE = new Due("FaceTest");
+    private static final String[] METHODS = {
+        "setNumber 2", "setLoad 2", "setComb 2", "setFlag 2", "appendCharacter 1", "clearText 0", "load 0",
+        "moveTo 1", "addCommand 2", "run 1", "home 1", "check 1", "correct 1", "keep 1", "back 1", "undo 0",
+        "count 1", "account 1", "loadAt 1", "errorAt 1", "command 2", "flag 1", "why 1", "losses 2",
+        "fastest 1", "counter 1",
+    };
+
+    public static void main(String[] args) throws IOException {
+        constants();
+        members();
+        insideClasses();
+        words();
+        DUE.end();
+    }
+
+    private static void constants() {
+        DUE.is("INVALID_ARGUMENT", FeedAxis.INVALID_ARGUMENT, -1000001);
+        DUE.is("ILLEGAL_STATE", FeedAxis.ILLEGAL_STATE, -1000002);
+        DUE.is("CAPACITY_EXCEEDED", FeedAxis.CAPACITY_EXCEEDED, -1000003);
+        DUE.is("NONE", FeedAxis.NONE, -1000009);
+    }
+
+    private static void members() {
+        Class<?> face = FeedAxis.class;
+        DUE.is("public and final", face.getModifiers(), Modifier.PUBLIC | Modifier.FINAL);
+        Set<String> names = new TreeSet<>();
+        int open = 0;
+        for (Method method : face.getDeclaredMethods()) {
+            String name = method.getName() + " " + method.getParameterCount();
+            if (Modifier.isPublic(method.getModifiers())) {
+                names.add(name);
+                boolean plain = method.getReturnType() == int.class && !Modifier.isStatic(method.getModifiers());
+                DUE.is(name + " is an int method", plain ? 1 : 0, 1);
+            } else if (!method.isSynthetic()) {
+                DUE.is(name + " is private", Modifier.isPrivate(method.getModifiers()) ? 1 : 0, 1);
+            }
+        }
+        DUE.is("the document's methods", names.equals(new TreeSet<>(Arrays.asList(METHODS))) ? 1 : 0, 1);
+        for (Field field : face.getDeclaredFields()) {
+            open += Modifier.isPrivate(field.getModifiers()) ? 0 : 1;
+        }
+        DUE.is("the document's constants alone are public", open, 4);
+        Constructor<?>[] constructors = face.getDeclaredConstructors();
+        DUE.is("constructors", constructors.length, 1);
+        DUE.is("its parameters", constructors[0].getParameterCount(), 0);
+        DUE.is("it is public", constructors[0].getModifiers(), Modifier.PUBLIC);
+    }
+
+    private static void insideClasses() {
+        Class<?>[] inside = FeedAxis.class.getDeclaredClasses();
+        DUE.is("at most twelve classes", inside.length < 12 ? 1 : 0, 1);
+        for (Class<?> one : inside) {
+            int modifiers = one.getModifiers();
+            boolean hidden = !Modifier.isPublic(modifiers) && !Modifier.isProtected(modifiers);
+            DUE.is(one + " is hidden", hidden ? 1 : 0, 1);
+            DUE.is(one + " is static", Modifier.isStatic(modifiers) ? 1 : 0, 1);
+            for (Field field : one.getDeclaredFields()) {
+                int of = field.getModifiers();
+                DUE.is(field + " is not static, or final", !Modifier.isStatic(of) || Modifier.isFinal(of) ? 1 : 0, 1);
+            }
+        }
+    }
+
+    private static void words() throws IOException {
+        String source = Files.readString(Path.of("src/main/java/FeedAxis.java"));
+        String code = source.replaceAll("(?s)/\\*.*?\\*/", " ").replaceAll("//[^\n]*", " ");
+        Pattern ruledOut = Pattern.compile(
+                "\\b(throw|throws|try|catch|synchronized|assert|import|package|double|float|protected|native)\\b|->|::");
+        Matcher found = ruledOut.matcher(code);
+        while (found.find()) {
+            DUE.is("ruled out: " + found.group(), 1, 0);
+        }
+        Matcher call = Pattern.compile("\\b(System|Math|Integer)\\.(\\w+)").matcher(code);
+        Set<String> library = Set.of("arraycopy", "max", "min", "abs", "floorDiv", "signum", "bitCount");
+        while (call.find()) {
+            DUE.is("library: " + call.group(), library.contains(call.group(2)) ? 1 : 0, 1);
+        }
+    }
+}
