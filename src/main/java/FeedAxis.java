@@ -21,6 +21,8 @@ public final class FeedAxis {
     private static final int GREATEST_SPEED_TRIED = 1000;
     private static final int SPEEDS_TRIED_APART = 50;
     private static final int IMAGES = 2;
+    // Further, and more microsteps, than any run of calls comes to.
+    private static final int FAR_AWAY = 1000000000;
 
     private final Axis present;
     // What a call would lead to is tried here, so that the present state stays as it is.
@@ -391,7 +393,6 @@ public final class FeedAxis {
     /** Values at places, by ascending place, no two at the same one. */
     private static final class Points {
         static final int CAPACITY = 10;
-
         private final int[] places;
         private final int[] values;
         int size;
@@ -416,6 +417,18 @@ public final class FeedAxis {
         int valueUpTo(int place, int absent) {
             int index = lastUpTo(place);
             return index >= 0 ? Rows.at(values, index) : absent;
+        }
+
+        /** The place of the point at a place or nearest below it; a place below all if there is none. */
+        int placeUpTo(int place) {
+            int index = lastUpTo(place);
+            return index >= 0 ? Rows.at(places, index) : -FAR_AWAY;
+        }
+
+        /** The place of the point nearest above a place; a place above all if there is none. */
+        int placeAbove(int place) {
+            int index = lastUpTo(place) + 1;
+            return index < size ? Rows.at(places, index) : FAR_AWAY;
         }
 
         /** The value on the straight line between the neighbours; 0 without points. */
@@ -606,7 +619,7 @@ public final class FeedAxis {
         }
 
         int number(int what) {
-            return Rows.at(numbers, what);
+            return what >= 0 && what < numbers.length ? numbers[what] : 0;
         }
 
         void changeNumber(int what, int value) {
@@ -658,33 +671,29 @@ public final class FeedAxis {
             return !isPlace(target(place));
         }
 
-        /** Moves to a place, unless this is refused. */
-        void travel(int place) {
+        /** Moves to a place, unless this is refused; answers the heaviest load met on the way. */
+        int travel(int place) {
+            int heaviest = 0;
             if (refuses(place)) {
-                return;
+                return heaviest;
             }
             int microsteps = microstepsTo(target(place));
             int direction = Integer.signum(microsteps);
-            for (int left = Math.abs(microsteps); left > 0; left--) {
-                microstep(direction);
+            int left = Math.abs(microsteps);
+            while (left > 0) {
+                heaviest = Math.max(heaviest, loadOn(table));
+                int alike = Math.min(left, Math.max(1, microstepsAlike(direction)));
+                makeMicrosteps(direction, alike);
+                left -= alike;
             }
+            return heaviest;
         }
 
-        /**
-         * Moves to a place with a torque that no load exceeds, and answers the heaviest load met. A move
-         * that does not stall takes the same way at every speed, so this one way tells of all speeds.
-         */
+        /** Moves with a torque that no load exceeds. */
         int travelUnstalled(int place) {
             changeNumber(TORQUE, GREATEST_LOAD);
             changeNumber(DROP, 0);
-            int microsteps = microstepsTo(target(place));
-            int direction = Integer.signum(microsteps);
-            int heaviest = 0;
-            for (int left = Math.abs(microsteps); left > 0; left--) {
-                heaviest = Math.max(heaviest, loadOn(table));
-                microstep(direction);
-            }
-            return heaviest;
+            return travel(place);
         }
 
         void carryOutNext() {
@@ -697,13 +706,13 @@ public final class FeedAxis {
             int edge = side == 0 ? flagFrom : flagTo;
             int left = MOST_MICROSTEPS_TO_FLAG;
             for (; left > 0 && ticksBeyond(edge, outward) <= FULL_STEP; left--) {
-                microstep(outward);
+                makeMicrosteps(outward, 1);
             }
             if (ticksBeyond(edge, outward) <= FULL_STEP) {
                 return false;
             }
             for (; left > 0 && ticksBeyond(edge, outward) > 0; left--) {
-                microstep(-outward);
+                makeMicrosteps(-outward, 1);
             }
             if (ticksBeyond(edge, outward) > 0) {
                 return false;
@@ -745,15 +754,38 @@ public final class FeedAxis {
             return step > 0 ? (target - counter) / step : 0;
         }
 
-        private void microstep(int direction) {
-            int ticks = direction * number(STEP);
+        private boolean stalls() {
+            return torqueAt(number(SPEED)) < loads.valueUpTo(table, 0);
+        }
+
+        /** At least 1, and not more than find the same load under the table as the first one does. */
+        private int microstepsAlike(int direction) {
+            if (stalls()) {
+                // The table stays where it is, so all that follow stall, too.
+                return FAR_AWAY;
+            }
+            int step = number(STEP);
+            int tableLeast = motor - number(BACKLASH);
+            if (step <= 0 || lag != 0 || table < tableLeast || table > motor) {
+                // A lag, or a backlash that has changed, may move the table against the direction.
+                return 1;
+            }
+            int way = direction > 0 ? loads.placeAbove(table) - 1 - tableLeast : motor - loads.placeUpTo(table);
+            return way / step + 1;
+        }
+
+        /** Makes microsteps that find the same load under the table; all of them stall, or none does. */
+        private void makeMicrosteps(int direction, int alike) {
+            boolean stalled = stalls();
+            int ticks = direction * alike * number(STEP);
             counter += ticks;
             lag += ticks;
-            tally(MICROSTEPS, 1);
-            if (torqueAt(number(SPEED)) >= loadOn(table)) {
-                turnMotor();
+            tally(MICROSTEPS, alike);
+            if (stalled) {
+                tally(STALLS, alike);
+                slip();
             } else {
-                stall();
+                turnMotor();
             }
         }
 
@@ -764,16 +796,21 @@ public final class FeedAxis {
             table = Math.min(motor, Math.max(table, motor - number(BACKLASH)));
         }
 
-        private void stall() {
-            tally(STALLS, 1);
+        /**
+         * Slips as often as the stalls that made the lag what it is: as each of them changed it by one step
+         * and slipped as soon as it was 32 (or -32), the lag that remains is -32 to 31 (or -31 to 32).
+         */
+        private void slip() {
             if (lag >= SLIP_LAG) {
-                tally(SLIPS_UP, 1);
-                lost += SLIP_TICKS;
-                lag -= SLIP_TICKS;
+                int slips = (lag + SLIP_LAG) / SLIP_TICKS;
+                tally(SLIPS_UP, slips);
+                lost += slips * SLIP_TICKS;
+                lag -= slips * SLIP_TICKS;
             } else if (lag <= -SLIP_LAG) {
-                tally(SLIPS_DOWN, 1);
-                lost -= SLIP_TICKS;
-                lag += SLIP_TICKS;
+                int slips = (SLIP_LAG - lag) / SLIP_TICKS;
+                tally(SLIPS_DOWN, slips);
+                lost -= slips * SLIP_TICKS;
+                lag += slips * SLIP_TICKS;
             }
         }
 

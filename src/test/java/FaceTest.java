@@ -80,8 +80,8 @@ public final class FaceTest {
     private static void words() throws IOException {
         String source = Files.readString(Path.of("src/main/java/FeedAxis.java"));
         String code = source.replaceAll("(?s)/\\*.*?\\*/", " ").replaceAll("//[^\n]*", " ");
-        Pattern ruledOut = Pattern.compile(
-                "\\b(throw|throws|try|catch|synchronized|assert|import|package|double|float|protected|native)\\b|->|::");
+        Pattern ruledOut = Pattern.compile("\\b(throw|throws|try|catch|synchronized|assert|import|package|double"
+                + "|float|protected|native)\\b|->|::");
         Matcher found = ruledOut.matcher(code);
         while (found.find()) {
             DUE.is("ruled out: " + found.group(), 1, 0);

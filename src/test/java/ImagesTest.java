@@ -105,6 +105,7 @@ public final class ImagesTest {
         DUE.is(when + ": flag(0)", x.flag(0), -30);
         DUE.is(when + ": flag(1)", x.flag(1), -20);
         DUE.is(when + ": command(0, 0)", x.command(0, 0), 6);
+        DUE.is(when + ": command(0, 1)", x.command(0, 1), 2);
         DUE.is(when + ": command(1, 0)", x.command(1, 0), 5);
         DUE.is(when + ": command(1, 1)", x.command(1, 1), 1);
     }
@@ -186,6 +187,16 @@ public final class ImagesTest {
         x.setLoad(1, 1);
         DUE.is("undo() of setLoad", x.undo(), 0);
         x.setComb(1, 1);
+        DUE.is("undo() of setComb", x.undo(), 0);
+        x.setLoad(1, 1);
+        x.setLoad(1, -1);
+        DUE.is("undo() of a load's removal", x.undo(), 1);
+        DUE.is("the load is there", x.count(15), 1);
+        DUE.is("undo() of setLoad", x.undo(), 0);
+        x.setComb(1, 1);
+        x.setComb(1, 100);
+        DUE.is("undo() of a comb point's removal", x.undo(), 1);
+        DUE.is("the comb point is there", x.count(16), 1);
         DUE.is("undo() of setComb", x.undo(), 0);
         x.setFlag(1, 2);
         DUE.is("undo() of setFlag", x.undo(), 0);

@@ -12,6 +12,7 @@ public final class LookingTest {
         promise19Account();
         promise20LoadAt();
         promise21ErrorAt();
+        promise21BelowZero();
         promise21RoundsDown();
         promise22Command();
         promise23Flag();
@@ -136,6 +137,16 @@ public final class LookingTest {
         DUE.is("at the middle one", x.errorAt(10), -50);
         DUE.is("between the upper two", x.errorAt(13), -20);
         DUE.is("at the highest", x.errorAt(20), 50);
+    }
+
+    private static void promise21BelowZero() {
+        FeedAxis x = new FeedAxis();
+        x.setComb(-50, 7);
+        x.setComb(-60, 3);
+        DUE.is("errorAt(-40)", x.errorAt(-40), 7);
+        DUE.is("errorAt(0)", x.errorAt(0), 7);
+        DUE.is("errorAt(-55)", x.errorAt(-55), 5);
+        DUE.is("errorAt(-61)", x.errorAt(-61), 3);
     }
 
     private static void promise21RoundsDown() {

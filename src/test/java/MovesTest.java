@@ -16,10 +16,14 @@ public final class MovesTest {
         promise9SlipsAtTheEdge();
         promise9GoesOnWithALag();
         promise9TakesTheLoadAtTheTable();
+        promise9StopsWhereTheLoadBegins();
+        promise9LoadsOnTheOtherSideOfZero();
+        promise9TableAgainstTheDirection();
         promise9Backlash();
         promise9BacklashThatChanges();
         promise10AddCommand();
         promise11Run();
+        promise11TakesPriorities();
         promise11RunWithARefusal();
         promise12Home();
         promise12HomeTwentyThousand();
@@ -207,6 +211,75 @@ public final class MovesTest {
         state("it stalls by the table's place", y, 56, 52, 2, 4, 0);
     }
 
+    private static void promise9StopsWhereTheLoadBegins() {
+        for (int i = 33; i <= 48; i++) {
+            for (int backlash = 0; backlash < 12; backlash += 5) {
+                FeedAxis x = new FeedAxis();
+                x.setNumber(0, 8);
+                x.setNumber(4, backlash);
+                x.setLoad(10, 90);
+                x.setLoad(20, 0);
+                x.setLoad(i, 91);
+                x.moveTo(103);
+                int stop = (i + backlash + 7) / 8 * 8;
+                DUE.is("upward to " + i + ": motor", x.count(7), stop);
+                DUE.is("upward to " + i + ": table", x.count(8), stop - backlash);
+                DUE.is("upward to " + i + ": stalls", x.account(1), (96 - stop) / 8);
+                DUE.is("upward to " + i + ": microsteps", x.account(0), 12);
+                FeedAxis y = new FeedAxis();
+                y.setNumber(0, 8);
+                y.setLoad(-20000, 91);
+                y.setLoad(1 - i, 90);
+                y.setLoad(-10, 0);
+                y.moveTo(-103);
+                int low = (i + 7) / 8 * 8;
+                DUE.is("downward to " + -i + ": motor", y.count(7), -low);
+                DUE.is("downward to " + -i + ": stalls", y.account(1), (96 - low) / 8);
+                DUE.is("downward to " + -i + ": ticks", y.account(4), low);
+            }
+        }
+    }
+
+    private static void promise9LoadsOnTheOtherSideOfZero() {
+        FeedAxis x = new FeedAxis();
+        x.moveTo(-100);
+        x.setLoad(-50, 91);
+        DUE.is("upward to -50", x.moveTo(0), 64);
+        state("upward to -50", x, 0, -48, -48, -16, 64);
+        FeedAxis y = new FeedAxis();
+        y.moveTo(100);
+        y.setLoad(0, 91);
+        y.setLoad(50, 0);
+        DUE.is("downward to 49", y.moveTo(0), -64);
+        state("downward to 49", y, 0, 48, 48, 16, -64);
+    }
+
+    private static void promise9TableAgainstTheDirection() {
+        FeedAxis x = new FeedAxis();
+        x.setNumber(4, 50);
+        x.moveTo(100);
+        x.setNumber(4, 0);
+        x.setLoad(90, 200);
+        DUE.is("a microstep downward lifts the table to 96", x.moveTo(0), -128);
+        state("then it stalls", x, 0, 96, 96, 32, -128);
+        accounts("then it stalls", x, 50, 24, 0, 2, 104, 0);
+        FeedAxis y = stuck(4);
+        y.moveTo(36);
+        y.setNumber(1, 100);
+        y.setLoad(-20000, 200);
+        y.setLoad(-10, 0);
+        DUE.is("a microstep upward brings the table to -24", y.moveTo(100), 64);
+        state("then it stalls", y, 100, -24, -24, -4, 128);
+        accounts("then it stalls", y, 25, 24, 2, 0, 24, 0);
+        FeedAxis z = stuck(4);
+        z.moveTo(-36);
+        z.setNumber(1, 100);
+        z.setLoad(-20000, 0);
+        z.setLoad(10, 200);
+        DUE.is("a microstep downward brings the table to 24", z.moveTo(-100), -64);
+        state("then it stalls", z, -100, 24, 24, 4, -128);
+    }
+
     private static void promise9Backlash() {
         FeedAxis x = new FeedAxis();
         x.setNumber(4, 10);
@@ -270,6 +343,8 @@ public final class MovesTest {
         DUE.is("run(1)", x.run(1), 2);
         DUE.is("at -40", x.count(6), -40);
         DUE.is("next is 40", x.command(0, 0), 40);
+        DUE.is("its priority", x.command(0, 1), 1);
+        DUE.is("then 80", x.command(1, 0), 80);
         DUE.is("saved", x.count(19), 4);
         DUE.is("run(8)", x.run(8), 0);
         DUE.is("at 80", x.count(6), 80);
@@ -277,9 +352,30 @@ public final class MovesTest {
         DUE.is("one state saved for both", x.count(19), 5);
         DUE.is("undo()", x.undo(), 4);
         DUE.is("both again", x.count(17), 2);
+        DUE.is("in their order", x.command(0, 0), 40);
         DUE.is("at -40 again", x.count(6), -40);
         DUE.is("run(2)", x.run(2), 0);
         DUE.is("run(2) again", x.run(2), STATE);
+    }
+
+    private static void promise11TakesPriorities() {
+        FeedAxis x = new FeedAxis();
+        for (int i = 0; i < 8; i++) {
+            x.addCommand(4 * i, 9 - i);
+        }
+        for (int i = 0; i < 7; i++) {
+            DUE.is("run(1)", x.run(1), 7 - i);
+            DUE.is("at " + 4 * i, x.count(6), 4 * i);
+            DUE.is("the next priority", x.command(0, 1), 8 - i);
+            DUE.is("the last priority", x.command(6 - i, 1), 2);
+            DUE.is("no more", x.command(7 - i, 1), NONE);
+        }
+        x.addCommand(400, 1);
+        DUE.is("behind the one that was left", x.command(1, 0), 400);
+        x.addCommand(404, 2);
+        DUE.is("between", x.command(1, 0), 404);
+        DUE.is("run(2)", x.run(2), 1);
+        DUE.is("at 404", x.count(6), 404);
     }
 
     private static void promise11RunWithARefusal() {

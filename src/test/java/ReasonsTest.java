@@ -157,6 +157,14 @@ public final class ReasonsTest {
         DUE.is("v unchanged", x.count(2), 100);
         x.setLoad(400, 81);
         DUE.is("the heaviest of all", x.fastest(404), 350);
+        FeedAxis y = new FeedAxis();
+        y.setNumber(1, 200);
+        y.setNumber(2, 1000);
+        y.setNumber(3, 1);
+        y.setLoad(40, 195);
+        y.setLoad(80, 200);
+        DUE.is("heavy loads", y.fastest(80), 550);
+        DUE.is("the heaviest load", y.fastest(84), 50);
     }
 
     private static void promise26FastestByTheTable() {

@@ -76,7 +76,9 @@ public final class TellingTest {
             DUE.is("setNumber(0, " + value + ")", x.setNumber(0, value), fits ? previous : INVALID);
             DUE.is("s after it", x.count(0), fits ? value : previous);
         }
+        DUE.is("setNumber(-1, 0)", x.setNumber(-1, 0), INVALID);
         DUE.is("setNumber(-1, 1)", x.setNumber(-1, 1), INVALID);
+        DUE.is("setNumber(6, 0)", x.setNumber(6, 0), INVALID);
         DUE.is("setNumber(6, 1)", x.setNumber(6, 1), INVALID);
         DUE.is("setNumber(MIN, 1)", x.setNumber(Integer.MIN_VALUE, 1), INVALID);
         DUE.is("setNumber(MAX, 1)", x.setNumber(Integer.MAX_VALUE, 1), INVALID);
