@@ -148,9 +148,15 @@ public final class FeedAxis {
     }
 
     public int home(int side) {
-        int hindrance = seekOnTrial(side);
-        if (hindrance != 0) {
-            return hindrance;
+        if (!isSide(side)) {
+            return INVALID_ARGUMENT;
+        }
+        if (!present.hasFlag) {
+            return ILLEGAL_STATE;
+        }
+        trial.copyFrom(present);
+        if (!trial.seek(side)) {
+            return NONE;
         }
         int change = trial.counterDue(side) - trial.counter;
         trial.moveCounterAlone(change);
@@ -159,9 +165,15 @@ public final class FeedAxis {
     }
 
     public int check(int side) {
-        int hindrance = seekOnTrial(side);
-        if (hindrance != 0) {
-            return hindrance;
+        if (!isSide(side)) {
+            return INVALID_ARGUMENT;
+        }
+        if (!present.hasFlag) {
+            return ILLEGAL_STATE;
+        }
+        trial.copyFrom(present);
+        if (!trial.seek(side)) {
+            return NONE;
         }
         adoptTrial();
         return present.counter - present.counterDue(side);
@@ -321,6 +333,10 @@ public final class FeedAxis {
         return place >= -FARTHEST_PLACE && place <= FARTHEST_PLACE;
     }
 
+    private static boolean isSide(int side) {
+        return side == 0 || side == 1;
+    }
+
     /** Sets a point of the present state, or removes it if the value is the one for an absent point. */
     private int setPoint(Points points, int place, int value, int absent) {
         int previous = points.valueAt(place, absent);
@@ -338,18 +354,6 @@ public final class FeedAxis {
         saved.push(present);
         points.put(place, value);
         return previous;
-    }
-
-    /** Seeks the flag on the trial; answers 0 if it is reached, otherwise the code of what hinders it. */
-    private int seekOnTrial(int side) {
-        if (side < 0 || side > 1) {
-            return INVALID_ARGUMENT;
-        }
-        if (!present.hasFlag) {
-            return ILLEGAL_STATE;
-        }
-        trial.copyFrom(present);
-        return trial.seek(side) ? 0 : NONE;
     }
 
     private void adoptTrial() {
@@ -567,6 +571,7 @@ public final class FeedAxis {
         private static final int SLIP_LAG = 32;
         private static final int SLIP_TICKS = 64;
         private static final int MOST_MICROSTEPS_TO_FLAG = 20000;
+        private static final int NOT_ENOUGH = -1;
 
         private final int[] numbers;
         final int[] accounts;
@@ -704,17 +709,9 @@ public final class FeedAxis {
         boolean seek(int side) {
             int outward = side == 0 ? -1 : 1;
             int edge = side == 0 ? flagFrom : flagTo;
-            int left = MOST_MICROSTEPS_TO_FLAG;
-            for (; left > 0 && ticksBeyond(edge, outward) <= FULL_STEP; left--) {
-                makeMicrosteps(outward, 1);
-            }
-            if (ticksBeyond(edge, outward) <= FULL_STEP) {
-                return false;
-            }
-            for (; left > 0 && ticksBeyond(edge, outward) > 0; left--) {
-                makeMicrosteps(-outward, 1);
-            }
-            if (ticksBeyond(edge, outward) > 0) {
+            int left = approach(edge + outward * (FULL_STEP + 1), outward, MOST_MICROSTEPS_TO_FLAG);
+            left = approach(edge, -outward, left);
+            if (left < 0) {
                 return false;
             }
             tally(FLAGS_REACHED, 1);
@@ -745,8 +742,30 @@ public final class FeedAxis {
             return table != target ? 6 : 0;
         }
 
-        private int ticksBeyond(int edge, int outward) {
-            return (table - edge) * outward;
+        /**
+         * Makes microsteps until the table is at the goal or beyond it. Answers how many are left of those that
+         * are allowed; NOT_ENOUGH if they don't suffice, or none were left to begin with.
+         */
+        private int approach(int goal, int direction, int allowed) {
+            int left = allowed;
+            while (left >= 0 && (goal - table) * direction > 0) {
+                // A table that has stalled stays where it is, so no number of microsteps would do.
+                if (left == 0 || stalls()) {
+                    return NOT_ENOUGH;
+                }
+                int alike = Math.min(microstepsAlike(direction), microstepsOfTable(goal, direction));
+                int made = Math.min(left, Math.max(1, alike));
+                makeMicrosteps(direction, made);
+                left -= made;
+            }
+            return left;
+        }
+
+        /** How many microsteps bring the table to a goal ahead, if there is no lag and none of them stalls. */
+        private int microstepsOfTable(int goal, int direction) {
+            int step = number(STEP);
+            int push = direction > 0 ? motor - number(BACKLASH) : motor;
+            return step > 0 ? ((goal - push) * direction + step - 1) / step : 0;
         }
 
         private int microstepsTo(int target) {
