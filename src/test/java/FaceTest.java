@@ -49,6 +49,7 @@ public final class FaceTest {
                 DUE.is(name + " is an int method", plain ? 1 : 0, 1);
             } else if (!method.isSynthetic()) {
                 DUE.is(name + " is private", Modifier.isPrivate(method.getModifiers()) ? 1 : 0, 1);
+                DUE.is(name + " bears a name of its own", isOfTheFace(method.getName()) ? 1 : 0, 0);
             }
         }
         DUE.is("the document's methods", names.equals(new TreeSet<>(Arrays.asList(METHODS))) ? 1 : 0, 1);
@@ -70,11 +71,23 @@ public final class FaceTest {
             boolean hidden = !Modifier.isPublic(modifiers) && !Modifier.isProtected(modifiers);
             DUE.is(one + " is hidden", hidden ? 1 : 0, 1);
             DUE.is(one + " is static", Modifier.isStatic(modifiers) ? 1 : 0, 1);
+            for (Method method : one.getDeclaredMethods()) {
+                DUE.is(method + " bears a name of its own", isOfTheFace(method.getName()) ? 1 : 0, 0);
+            }
             for (Field field : one.getDeclaredFields()) {
                 int of = field.getModifiers();
                 DUE.is(field + " is not static, or final", !Modifier.isStatic(of) || Modifier.isFinal(of) ? 1 : 0, 1);
             }
         }
+    }
+
+    private static boolean isOfTheFace(String name) {
+        for (String method : METHODS) {
+            if (method.startsWith(name + " ")) {
+                return true;
+            }
+        }
+        return false;
     }
 
     private static void words() throws IOException {

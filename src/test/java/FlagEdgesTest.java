@@ -47,8 +47,8 @@ public final class FlagEdgesTest {
 
     private static void flagFrom() {
         DUE.sentence("setFlag: from -20000 to 20000");
-        DUE.run("setFlag -20001 0 = INVALID", "setFlag -20001 -20000 = INVALID", "setFlag MIN 0 = INVALID", "flag 0 = NONE",
-            "setFlag -20000 0 = 0", "flag 0 = -20000", "setFlag -19999 0 = 1", "flag 0 = -19999",
+        DUE.run("setFlag -20001 0 = INVALID", "setFlag -20001 -20000 = INVALID", "setFlag MIN 0 = INVALID",
+            "flag 0 = NONE", "setFlag -20000 0 = 0", "flag 0 = -20000", "setFlag -19999 0 = 1", "flag 0 = -19999",
             "setFlag -20001 0 = INVALID", "flag 0 = -19999", "setFlag 19999 20000 = 1", "flag 0 = 19999",
             "setFlag 20000 20001 = INVALID", "setFlag 20000 20000 = INVALID", "setFlag 20001 20002 = INVALID",
             "flag 0 = 19999", "count 19 = 3");
@@ -58,10 +58,10 @@ public final class FlagEdgesTest {
 
     private static void flagTo() {
         DUE.sentence("setFlag: to greater than from, at most 20000");
-        DUE.run("setFlag 0 20001 = INVALID", "setFlag 0 MAX = INVALID", "setFlag MIN MAX = INVALID", "flag 1 = NONE",
-            "setFlag 0 20000 = 0", "flag 1 = 20000", "setFlag 0 19999 = 1", "flag 1 = 19999", "setFlag 0 20001 = INVALID",
-            "flag 1 = 19999", "setFlag -20000 -19999 = 1", "flag 1 = -19999", "setFlag -20001 -20002 = INVALID",
-            "setFlag -20000 20000 = 1", "flag 0 = -20000", "flag 1 = 20000");
+        DUE.run("setFlag 0 20001 = INVALID", "setFlag 0 MAX = INVALID", "setFlag MIN MAX = INVALID",
+            "flag 1 = NONE", "setFlag 0 20000 = 0", "flag 1 = 20000", "setFlag 0 19999 = 1", "flag 1 = 19999",
+            "setFlag 0 20001 = INVALID", "flag 1 = 19999", "setFlag -20000 -19999 = 1", "flag 1 = -19999",
+            "setFlag -20001 -20002 = INVALID", "setFlag -20000 20000 = 1", "flag 0 = -20000", "flag 1 = 20000");
         DUE.refused(new String[] {"setFlag 3 4"}, "setFlag 0 20001", "INVALID");
     }
 
@@ -82,8 +82,8 @@ public final class FlagEdgesTest {
 
     private static void flagEnds() {
         DUE.sentence("flag: end 0 f, 1 g; INVALID_ARGUMENT if end is out of range");
-        DUE.run("setFlag -3 4", "flag -1 = INVALID", "flag 0 = -3", "flag 1 = 4", "flag 2 = INVALID", "flag MIN = INVALID",
-            "flag MAX = INVALID");
+        DUE.run("setFlag -3 4", "flag -1 = INVALID", "flag 0 = -3", "flag 1 = 4", "flag 2 = INVALID",
+            "flag MIN = INVALID", "flag MAX = INVALID");
     }
 
     private static void flagThatIsNotThere() {
@@ -93,9 +93,10 @@ public final class FlagEdgesTest {
 
     private static void flagCoversItsEnds() {
         DUE.sentence("a flag, which covers the places of the table from f to g");
-        DUE.run(FINE, "setFlag 5 7", "moveTo 4", "count 14 = 0", "moveTo 5", "count 14 = 1", "moveTo 6", "count 14 = 1",
-            "moveTo 7", "count 14 = 1", "moveTo 8", "count 14 = 0", "setNumber 4 1", "moveTo 9", "count 8 = 8",
-            "count 14 = 0", "moveTo 7", "count 14 = 1", "setNumber 4 2", "moveTo 9", "count 8 = 7", "count 14 = 1");
+        DUE.run(FINE, "setFlag 5 7", "moveTo 4", "count 14 = 0", "moveTo 5", "count 14 = 1", "moveTo 6",
+            "count 14 = 1", "moveTo 7", "count 14 = 1", "moveTo 8", "count 14 = 0", "setNumber 4 1", "moveTo 9",
+            "count 8 = 8", "count 14 = 0", "moveTo 7", "count 14 = 1", "setNumber 4 2", "moveTo 9", "count 8 = 7",
+            "count 14 = 1");
         DUE.run("count 14 = 0", "setFlag 0 1", "count 14 = 1", "setFlag -1 0", "count 14 = 1", "setFlag 1 2",
             "count 14 = 0", "setFlag -2 -1", "count 14 = 0");
     }
@@ -175,8 +176,8 @@ public final class FlagEdgesTest {
             DUE.run(FINE, "moveTo -1", "setFlag 19999 20000", call + " = 0", "account 0 = 20001", "account 5 = 1");
             DUE.run(FINE, "moveTo -2", "setFlag 19999 20000", call + " = NONE", "account 0 = 2", "account 5 = 0",
                 "count 8 = -2");
-            DUE.run("setNumber 0 2", "moveTo -2", "setFlag 19999 20000", call + " = " + (call.startsWith("c") ? 1 : -1),
-                "account 0 = 10002");
+            DUE.run("setNumber 0 2", "moveTo -2", "setFlag 19999 20000",
+                call + " = " + (call.startsWith("c") ? 1 : -1), "account 0 = 10002");
         }
     }
 
@@ -223,8 +224,9 @@ public final class FlagEdgesTest {
 
     private static void notReachedAsItStalls() {
         DUE.sentence("If it takes more than 20000 microsteps in all: it does, once it stalls on the first way");
-        DUE.run("setNumber 1 0", "setLoad -20000 1", "setFlag -10 10", "home 0 = NONE", "home 1 = NONE", "check 0 = NONE",
-            "check 1 = NONE", "count 6 = 0", "count 9 = 0", "count 10 = 0", "account 1 = 0", "account 5 = 0");
+        DUE.run("setNumber 1 0", "setLoad -20000 1", "setFlag -10 10", "home 0 = NONE", "home 1 = NONE",
+            "check 0 = NONE", "check 1 = NONE", "count 6 = 0", "count 9 = 0", "count 10 = 0", "account 1 = 0",
+            "account 5 = 0");
         DUE.run(FINE, "setFlag 0 10", "setLoad -20000 200", "setLoad -16 0", "check 0 = NONE", "setLoad -17 0",
             "check 0 = 0");
         DUE.run(FINE, "setFlag 0 10", "setLoad 26 200", "check 1 = NONE", "setLoad 28 0", "check 1 = NONE",
@@ -287,7 +289,8 @@ public final class FlagEdgesTest {
 
     private static void homeWithoutAFlag() {
         DUE.sentence("home: ILLEGAL_STATE if there is no flag");
-        DUE.run("home 0 = STATE", "home 1 = STATE", "setFlag 0 1", "undo", "home 0 = STATE", "setFlag 0 1", "home 0 = 0");
+        DUE.run("home 0 = STATE", "home 1 = STATE", "setFlag 0 1", "undo", "home 0 = STATE", "setFlag 0 1",
+            "home 0 = 0");
         DUE.refused(new String[] {"moveTo 40"}, "home 0", "STATE");
         DUE.refused(new String[] {"moveTo 40"}, "home 1", "STATE");
     }
@@ -300,16 +303,16 @@ public final class FlagEdgesTest {
 
     private static void checkTellsWhatSeemsLost() {
         DUE.sentence("the counter less what is due: the ticks that seem lost");
-        DUE.run("setFlag 40 60", "correct 7 = -7", "check 0 = -7", "count 6 = 33", "count 11 = -7", "correct -14 = 47",
-            "check 1 = 7", "count 6 = 67", "count 11 = 7", "count 10 = 0");
-        DUE.run("setFlag -40 -20", "setLoad 20 200", "moveTo 60 = 64", "setLoad 20 -1", "check 1 = 64", "count 10 = 64",
-            "correct 64 = -20", "check 1 = 0", "count 10 = 64");
+        DUE.run("setFlag 40 60", "correct 7 = -7", "check 0 = -7", "count 6 = 33", "count 11 = -7",
+            "correct -14 = 47", "check 1 = 7", "count 6 = 67", "count 11 = 7", "count 10 = 0");
+        DUE.run("setFlag -40 -20", "setLoad 20 200", "moveTo 60 = 64", "setLoad 20 -1", "check 1 = 64",
+            "count 10 = 64", "correct 64 = -20", "check 1 = 0", "count 10 = 64");
     }
 
     private static void checkSide() {
         DUE.sentence("check: side 0 from below, 1 from above; INVALID_ARGUMENT if side is out of range");
-        DUE.run("setFlag 40 60", "check -1 = INVALID", "check 2 = INVALID", "check MIN = INVALID", "check MAX = INVALID",
-            "count 19 = 1", "check 0 = 0", "count 8 = 40", "check 1 = 0", "count 8 = 60");
+        DUE.run("setFlag 40 60", "check -1 = INVALID", "check 2 = INVALID", "check MIN = INVALID",
+            "check MAX = INVALID", "count 19 = 1", "check 0 = 0", "count 8 = 40", "check 1 = 0", "count 8 = 60");
         DUE.refused(new String[] {"setFlag 40 60", "correct 5"}, "check 2", "INVALID");
     }
 
@@ -336,9 +339,10 @@ public final class FlagEdgesTest {
 
     private static void correctRange() {
         DUE.sentence("correct: ticks -9999 to 9999; INVALID_ARGUMENT if ticks is out of range");
-        DUE.run("correct -10000 = INVALID", "correct 10000 = INVALID", "correct MIN = INVALID", "correct MAX = INVALID",
-            "count 6 = 0", "count 19 = 0", "correct 9999 = -9999", "count 11 = -9999", "correct -9999 = 0",
-            "count 11 = 0", "correct -9998 = 9998", "correct 9998 = 0", "correct 0 = 0", "count 19 = 5", "count 7 = 0");
+        DUE.run("correct -10000 = INVALID", "correct 10000 = INVALID", "correct MIN = INVALID",
+            "correct MAX = INVALID", "count 6 = 0", "count 19 = 0", "correct 9999 = -9999", "count 11 = -9999",
+            "correct -9999 = 0", "count 11 = 0", "correct -9998 = 9998", "correct 9998 = 0", "correct 0 = 0",
+            "count 19 = 5", "count 7 = 0");
         DUE.refused(new String[] {"moveTo 40"}, "correct 10000", "INVALID");
         DUE.refused(new String[] {"moveTo 40"}, "correct -10000", "INVALID");
     }
@@ -370,11 +374,14 @@ public final class FlagEdgesTest {
     }
 
     private static void correctFromBeyond() {
-        DUE.sentence("if it would be less than -99999 or greater than 99999: from a counter that is, by seeking, too");
+        DUE.sentence("if it would be less than -99999 or greater than 99999: from a counter that is, by "
+            + "seeking, too");
         DUE.run(times(10, "correct -9999", "correct -9 = 99999", FINE, "setFlag 0 10", "check 1 = 99999",
-            "count 6 = 100009", "correct -1 = STATE", "correct 0 = STATE", "correct 9 = STATE", "correct 10 = 99999"));
+            "count 6 = 100009", "correct -1 = STATE", "correct 0 = STATE", "correct 9 = STATE",
+            "correct 10 = 99999"));
         DUE.run(times(10, "correct 9999", "correct 9 = -99999", FINE, "setFlag -10 0", "check 0 = -99999",
-            "count 6 = -100009", "correct 1 = STATE", "correct 0 = STATE", "correct -9 = STATE", "correct -10 = -99999"));
+            "count 6 = -100009", "correct 1 = STATE", "correct 0 = STATE", "correct -9 = STATE",
+            "correct -10 = -99999"));
     }
 
     private static void correctErrorsInTheirOrder() {

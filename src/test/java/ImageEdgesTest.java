@@ -32,9 +32,9 @@ public final class ImageEdgesTest {
 
     private static void twoImages() {
         DUE.sentence("keep: image 0 or 1; INVALID_ARGUMENT if there is no such image");
-        DUE.run("keep -1 = INVALID", "keep 2 = INVALID", "keep 3 = INVALID", "keep 31 = INVALID", "keep 32 = INVALID",
-            "keep 33 = INVALID", "keep MIN = INVALID", "keep MAX = INVALID", "count 20 = 0", "keep 0 = 0", "keep 1 = 0",
-            "count 20 = 3");
+        DUE.run("keep -1 = INVALID", "keep 2 = INVALID", "keep 3 = INVALID", "keep 31 = INVALID",
+            "keep 32 = INVALID", "keep 33 = INVALID", "keep MIN = INVALID", "keep MAX = INVALID", "count 20 = 0",
+            "keep 0 = 0", "keep 1 = 0", "count 20 = 3");
         DUE.refused(new String[] {"moveTo 40", "keep 0", "moveTo 80"}, "keep 2", "INVALID");
         DUE.refused(new String[] {"moveTo 40", "keep 1", "moveTo 80"}, "keep -1", "INVALID");
     }
@@ -46,8 +46,8 @@ public final class ImageEdgesTest {
 
     private static void imagesAsABitMask() {
         DUE.sentence("20 the images that keep something, as a bit mask");
-        DUE.run("keep 0 = 0", "count 20 = 1", "keep 0 = 0", "count 20 = 1", "keep 1 = 0", "count 20 = 3", "back 0 = 0",
-            "back 1 = 0", "count 20 = 3");
+        DUE.run("keep 0 = 0", "count 20 = 1", "keep 0 = 0", "count 20 = 1", "keep 1 = 0", "count 20 = 3",
+            "back 0 = 0", "back 1 = 0", "count 20 = 3");
         DUE.run("keep 1 = 0", "count 20 = 2", "keep 1 = 0", "count 20 = 2", "keep 0 = 0", "count 20 = 3");
     }
 
@@ -66,15 +66,15 @@ public final class ImageEdgesTest {
 
     private static void keepSavesNoState() {
         DUE.sentence("Every successful call of .. (keep() is none of them) .. saves the state");
-        DUE.run("keep 0 = 0", "keep 1 = 0", "count 19 = 0", "undo = STATE", "moveTo 40", "keep 0 = 40", "count 19 = 1",
-            "undo = 0", "count 6 = 0");
+        DUE.run("keep 0 = 0", "keep 1 = 0", "count 19 = 0", "undo = STATE", "moveTo 40", "keep 0 = 40",
+            "count 19 = 1", "undo = 0", "count 6 = 0");
     }
 
     private static void backRange() {
         DUE.sentence("back: image 0 or 1; INVALID_ARGUMENT if there is no such image");
-        DUE.run("keep 0", "keep 1", "back -1 = INVALID", "back 2 = INVALID", "back 3 = INVALID", "back 32 = INVALID",
-            "back 33 = INVALID", "back MIN = INVALID", "back MAX = INVALID", "count 19 = 0", "back 0 = 0", "back 1 = 0",
-            "count 19 = 2");
+        DUE.run("keep 0", "keep 1", "back -1 = INVALID", "back 2 = INVALID", "back 3 = INVALID",
+            "back 32 = INVALID", "back 33 = INVALID", "back MIN = INVALID", "back MAX = INVALID", "count 19 = 0",
+            "back 0 = 0", "back 1 = 0", "count 19 = 2");
         DUE.refused(new String[] {"moveTo 40", "keep 0", "keep 1", "moveTo 80"}, "back 2", "INVALID");
         DUE.refused(new String[] {"moveTo 40", "keep 0", "keep 1", "moveTo 80"}, "back -1", "INVALID");
     }
@@ -129,38 +129,44 @@ public final class ImageEdgesTest {
             {"correct 8", "count 6 = -8", "count 6 = 0"},
         };
         for (String[] part : parts) {
-            DUE.run("keep 0", part[0], part[1], "keep 1", "back 0 = 0", part[2], "back 1", part[1], "undo = 2", part[2],
-                "undo = 1", part[1], "undo = 0", part[2]);
+            DUE.run("keep 0", part[0], part[1], "keep 1", "back 0 = 0", part[2], "back 1", part[1], "undo = 2",
+                part[2], "undo = 1", part[1], "undo = 0", part[2]);
         }
         String[] stalls = {"setNumber 1 0", "setLoad 0 1", "keep 0"};
         String[] lost = {"moveTo 36", "moveTo 12", "moveTo 16"};
-        DUE.run(stalls[0], stalls[1], stalls[2], lost[0], lost[1], lost[2], "keep 1", "count 9 = 16", "count 10 = 0",
-            "account 1 = 16", "account 2 = 1", "account 3 = 1", "moveTo 32 = 64", "back 1 = 16", "count 9 = 16",
-            "count 10 = 0", "account 1 = 16", "account 2 = 1", "account 3 = 1", "back 0 = 0", "count 9 = 0",
-            "account 1 = 0", "account 2 = 0", "account 3 = 0", "undo = 5", "count 9 = 16", "undo = 4", "count 9 = -32");
-        DUE.run("setFlag 3 7", "keep 0", "home 0", "account 5 = 1", "back 0", "account 5 = 0", "undo", "account 5 = 1");
+        DUE.run(stalls[0], stalls[1], stalls[2], lost[0], lost[1], lost[2], "keep 1", "count 9 = 16",
+            "count 10 = 0", "account 1 = 16", "account 2 = 1", "account 3 = 1", "moveTo 32 = 64", "back 1 = 16",
+            "count 9 = 16", "count 10 = 0", "account 1 = 16", "account 2 = 1", "account 3 = 1", "back 0 = 0",
+            "count 9 = 0", "account 1 = 0", "account 2 = 0", "account 3 = 0", "undo = 5", "count 9 = 16",
+            "undo = 4", "count 9 = -32");
+        DUE.run("setFlag 3 7", "keep 0", "home 0", "account 5 = 1", "back 0", "account 5 = 0", "undo",
+            "account 5 = 1");
     }
 
     private static void eachOfTwelveCallsSaves() {
         DUE.sentence("Every successful call of setNumber() .. and back() saves the state that preceded it");
         String[] calls = {
-            "setNumber 1 50", "setLoad 60 6", "setLoad 10 -1", "setComb 60 6", "setComb 10 100", "setFlag 1 2", "load",
-            "moveTo 80", "addCommand 60 6", "run 1", "home 0", "home 1", "check 0", "check 1", "correct 3", "correct 0",
+            "setNumber 1 50", "setLoad 60 6", "setLoad 10 -1", "setComb 60 6", "setComb 10 100", "setFlag 1 2",
+            "load",
+            "moveTo 80", "addCommand 60 6", "run 1", "home 0", "home 1", "check 0", "check 1", "correct 3",
+            "correct 0",
             "back 0", "setNumber 1 100", "setLoad 10 5", "setComb 10 0", "moveTo 0",
         };
         for (String call : calls) {
             DUE.run("setLoad 10 5", "setComb 10 0", "setFlag -9 9", "addCommand 20 2", "keep 0", "count 19 = 4", call,
                 "count 19 = 5", "undo = 4", "count 1 = 100", "loadAt 10 = 5", "loadAt 60 = 5", "errorAt 10 = 0",
-                "errorAt 60 = 0", "flag 0 = -9", "count 6 = 0", "count 17 = 1", "count 11 = 0", "account 5 = 0",
+                "errorAt 60 = 0", "flag 0 = -9", "count 6 = 0", "count 17 = 1",
+                "command 0 0 = 20", "command 0 1 = 2", "count 11 = 0", "account 5 = 0",
                 "undo = 3", "count 17 = 0", "undo = 2", "flag 0 = NONE");
         }
     }
 
     private static void otherCallsSaveNothing() {
         DUE.sentence("Every successful call of .. saves: the calls that are not named don't");
-        DUE.run("type l1:2;", "count 19 = 0", "clearText = 5", "count 19 = 0", "keep 0 = 0", "count 19 = 0", "moveTo 40",
-            "count 19 = 1", "count 6", "account 0", "loadAt 0", "errorAt 0", "command 0 0", "flag 0", "why 80",
-            "losses 80 10", "fastest 80", "counter 0", "count 19 = 1", "undo = 0", "count 19 = 0", "undo = STATE");
+        DUE.run("type l1:2;", "count 19 = 0", "clearText = 5", "count 19 = 0", "keep 0 = 0", "count 19 = 0",
+            "moveTo 40", "count 19 = 1", "count 6", "account 0", "loadAt 0", "errorAt 0", "command 0 0", "flag 0",
+            "why 80", "losses 80 10", "fastest 80", "counter 0", "count 19 = 1", "undo = 0", "count 19 = 0",
+            "undo = STATE");
     }
 
     private static void refusedCallsSaveNothing() {
@@ -183,8 +189,9 @@ public final class ImageEdgesTest {
 
     private static void sixSavedStates() {
         DUE.sentence("At most 6 states are saved: six are");
-        DUE.run("moveTo 4", "moveTo 8", "moveTo 12", "moveTo 16", "moveTo 20", "moveTo 24", "undo = 5", "count 6 = 20",
-            "undo = 4", "undo = 3", "undo = 2", "undo = 1", "count 6 = 4", "undo = 0", "count 6 = 0", "undo = STATE");
+        DUE.run("moveTo 4", "moveTo 8", "moveTo 12", "moveTo 16", "moveTo 20", "moveTo 24", "undo = 5",
+            "count 6 = 20", "undo = 4", "undo = 3", "undo = 2", "undo = 1", "count 6 = 4", "undo = 0",
+            "count 6 = 0", "undo = STATE");
     }
 
     private static void undoOfNothing() {
@@ -196,7 +203,8 @@ public final class ImageEdgesTest {
     }
 
     private static void undoDiscards() {
-        DUE.sentence("undo() restores the most recently saved state and discards it. Returns the number .. still saved");
+        DUE.sentence("undo() restores the most recently saved state and discards it. Returns the number .. "
+            + "still saved");
         DUE.run("moveTo 4", "moveTo 8", "undo = 1", "count 6 = 4", "count 19 = 1", "moveTo 12", "count 19 = 2",
             "undo = 1", "count 6 = 4", "undo = 0", "count 6 = 0", "count 19 = 0");
     }
@@ -210,7 +218,8 @@ public final class ImageEdgesTest {
 
     private static void undoOfUndoIsNone() {
         DUE.sentence("Every successful call of .. (undo() is none of them) .. saves the state");
-        DUE.run("moveTo 4", "moveTo 8", "moveTo 12", "undo = 2", "undo = 1", "undo = 0", "undo = STATE", "count 6 = 0");
+        DUE.run("moveTo 4", "moveTo 8", "moveTo 12", "undo = 2", "undo = 1", "undo = 0", "undo = STATE",
+            "count 6 = 0");
     }
 
     private static void savedStatesRoundAndRound() {

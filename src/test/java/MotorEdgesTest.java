@@ -11,6 +11,7 @@ public final class MotorEdgesTest {
         tableIsGreaterThanTheMotor();
         backlashOfZeroAndFifty();
         tableFollowsAMoveByZero();
+        tableFollowsIntoAnotherLoad();
         counterIsTheSum();
         loadAtThePlaceOfTheTable();
         loadWhereItBeginsUpward();
@@ -64,9 +65,18 @@ public final class MotorEdgesTest {
 
     private static void tableFollowsAMoveByZero() {
         DUE.sentence("the motor moves by the lag (perhaps by 0), the lag becomes 0, and the table follows");
-        DUE.run("setNumber 4 50", "moveTo 48 = 0", "count 8 = 0", "setLoad -20000 200", "moveTo 44 = 0", "count 9 = -4",
-            "count 7 = 48", "setLoad -20000 0", "setNumber 4 3", "count 8 = 0", "moveTo 48 = 0", "count 9 = 0",
-            "count 7 = 48", "count 8 = 45", "account 4 = 48");
+        DUE.run("setNumber 4 50", "moveTo 48 = 0", "count 8 = 0", "setLoad -20000 200", "moveTo 44 = 0",
+            "count 9 = -4", "count 7 = 48", "setLoad -20000 0", "setNumber 4 3", "count 8 = 0", "moveTo 48 = 0",
+            "count 9 = 0", "count 7 = 48", "count 8 = 45", "account 4 = 48");
+    }
+
+    private static void tableFollowsIntoAnotherLoad() {
+        DUE.sentence("when the motor has moved, the table follows: against its direction, too, if b became less");
+        DUE.run("setNumber 4 50", "moveTo 100", "count 8 = 50", "setNumber 4 0", "setLoad 90 200", "moveTo 0 = -128",
+            "count 6 = 0", "count 7 = 96", "count 8 = 96", "count 9 = 32", "account 1 = 24", "account 4 = 104");
+        DUE.run("setNumber 4 50", "moveTo 100", "setNumber 4 0", "setLoad 97 200", "moveTo 0 = 0", "count 8 = 0");
+        DUE.run("setNumber 4 50", "moveTo 100", "setNumber 4 0", "setLoad 97 200", "moveTo 104 = 0", "count 8 = 104",
+            "moveTo 108 = 0", "account 1 = 1");
     }
 
     private static void counterIsTheSum() {
@@ -122,6 +132,11 @@ public final class MotorEdgesTest {
             "count 7 = 32", "count 8 = 32", "account 0 = 8", "account 1 = 7", "account 2 = 0", "account 4 = 32");
         DUE.run(WEAK, LOADED, "moveTo -28 = 0", "count 9 = -28", STRONG, "moveTo -32 = 0", "count 9 = 0",
             "count 7 = -32", "account 4 = 32");
+        // with a lag of 1 the motor is at 10 after nine microsteps, and stalls there
+        DUE.run("setNumber 0 1", WEAK, LOADED, "moveTo 1 = 0", "count 9 = 1", STRONG, "setLoad 10 200",
+            "moveTo 20 = 0", "count 7 = 10", "count 9 = 10", "account 1 = 11");
+        DUE.run("setNumber 0 1", WEAK, LOADED, "moveTo -1 = 0", "count 9 = -1", STRONG, "setLoad -20000 200",
+            "setLoad -9 0", "moveTo -20 = 0", "count 7 = -10", "count 9 = -10", "account 1 = 11");
     }
 
     private static void motorMovesByZero() {
@@ -140,13 +155,13 @@ public final class MotorEdgesTest {
 
     private static void lagStaysWithoutAMicrostep() {
         DUE.sentence("When a microstep is made .. the motor moves by the lag: without one, it does not");
-        DUE.run(WEAK, LOADED, "moveTo 24 = 0", STRONG, "moveTo 24 = 0", "count 9 = 24", "count 7 = 0", "moveTo 27 = 0",
-            "count 9 = 24", "moveTo 28 = 0", "count 9 = 0", "count 7 = 28");
+        DUE.run(WEAK, LOADED, "moveTo 24 = 0", STRONG, "moveTo 24 = 0", "count 9 = 24", "count 7 = 0",
+            "moveTo 27 = 0", "count 9 = 24", "moveTo 28 = 0", "count 9 = 0", "count 7 = 28");
     }
 
     private static void lagOfThirtyTwoSlips() {
-        DUE.sentence("if the lag is 32 or greater then, it slips: the lost ticks become greater by 64 and the lag less "
-            + "by 64");
+        DUE.sentence("if the lag is 32 or greater then, it slips: the lost ticks become greater by 64 and the "
+            + "lag less by 64");
         DUE.run("setNumber 0 1", WEAK, LOADED, "moveTo 31 = 0", "count 9 = 31", "count 10 = 0", "account 2 = 0",
             "moveTo 32 = 64", "count 9 = -32", "count 10 = 64", "account 1 = 32", "account 2 = 1", "account 3 = 0",
             "count 7 = 0", "moveTo 33 = 0", "count 9 = -31", "account 2 = 1", "account 3 = 0");
@@ -157,12 +172,13 @@ public final class MotorEdgesTest {
         DUE.run("setNumber 0 1", WEAK, LOADED, "moveTo 31 = 0", "setNumber 0 2", "moveTo 33 = 64", "count 9 = -31",
             "account 2 = 1", "account 3 = 0");
         DUE.run("setNumber 0 1", WEAK, LOADED, "moveTo 31 = 0", "setNumber 0 16", "moveTo 47 = 64", "count 9 = -17");
-        DUE.run("setNumber 0 1", WEAK, LOADED, "moveTo -32 = -64", "count 9 = 32", "setNumber 0 16", "moveTo -16 = 64",
-            "count 9 = -16", "count 10 = 0");
+        DUE.run("setNumber 0 1", WEAK, LOADED, "moveTo -32 = -64", "count 9 = 32", "setNumber 0 16",
+            "moveTo -16 = 64", "count 9 = -16", "count 10 = 0");
     }
 
     private static void lagOfMinusThirtyTwoSlips() {
-        DUE.sentence("otherwise, if the lag is -32 or less, the lost ticks become less by 64 and the lag greater by 64");
+        DUE.sentence("otherwise, if the lag is -32 or less, the lost ticks become less by 64 and the lag "
+            + "greater by 64");
         DUE.run("setNumber 0 1", WEAK, LOADED, "moveTo -31 = 0", "count 9 = -31", "count 10 = 0", "account 3 = 0",
             "moveTo -32 = -64", "count 9 = 32", "count 10 = -64", "account 1 = 32", "account 2 = 0", "account 3 = 1",
             "count 7 = 0", "moveTo -33 = 0", "count 9 = 31", "account 2 = 0", "account 3 = 1");
@@ -172,7 +188,8 @@ public final class MotorEdgesTest {
         DUE.sentence("if the lag is -32 or less: -33, and -47, the least downward from -31");
         DUE.run("setNumber 0 1", WEAK, LOADED, "moveTo -31 = 0", "setNumber 0 2", "moveTo -33 = -64", "count 9 = 31",
             "account 3 = 1", "account 2 = 0");
-        DUE.run("setNumber 0 1", WEAK, LOADED, "moveTo -31 = 0", "setNumber 0 16", "moveTo -47 = -64", "count 9 = 17");
+        DUE.run("setNumber 0 1", WEAK, LOADED, "moveTo -31 = 0", "setNumber 0 16", "moveTo -47 = -64",
+            "count 9 = 17");
         DUE.run("setNumber 0 1", WEAK, LOADED, "moveTo 32 = 64", "count 9 = -32", "setNumber 0 16", "moveTo 16 = -64",
             "count 9 = 16", "count 10 = 0");
     }
@@ -188,7 +205,8 @@ public final class MotorEdgesTest {
     }
 
     private static void lagOfThirtyTwoGoesBack() {
-        DUE.sentence("if the lag is 32 or greater then .. otherwise, if it is -32 or less: it is looked at once changed");
+        DUE.sentence("if the lag is 32 or greater then .. otherwise, if it is -32 or less: it is looked at "
+            + "once changed");
         DUE.run("setNumber 0 1", WEAK, LOADED, "moveTo 32 = 64", "moveTo 33 = 0", "moveTo 32 = -64", "count 9 = 32",
             "moveTo 31 = 0", "count 9 = 31", "moveTo 32 = 64", "count 9 = -32");
         DUE.run("setNumber 0 1", WEAK, LOADED, "moveTo -32 = -64", "count 9 = 32", "moveTo -31 = 64", "count 9 = -31",
@@ -216,14 +234,15 @@ public final class MotorEdgesTest {
         DUE.run("setNumber 0 16", WEAK, LOADED, "moveTo 16 = 0", "count 9 = 16", "moveTo 80 = 64", "count 9 = 16",
             "moveTo 96 = 64", "count 9 = -32", "account 2 = 2", "account 1 = 6");
         DUE.run("setNumber 0 16", WEAK, LOADED, "moveTo 96 = 128", "count 9 = -32", "account 2 = 2");
-        DUE.run("setNumber 0 1", WEAK, LOADED, "moveTo 31 = 0", "setNumber 0 16", "moveTo 111 = 128", "count 9 = -17");
+        DUE.run("setNumber 0 1", WEAK, LOADED, "moveTo 31 = 0", "setNumber 0 16", "moveTo 111 = 128",
+            "count 9 = -17");
         DUE.run("setNumber 0 1", WEAK, LOADED, "moveTo 31 = 0", "setNumber 0 16", "moveTo 95 = 64", "count 9 = 31");
     }
 
     private static void motorStaysInAStall() {
         DUE.sentence("Otherwise, this is a stall: .. the motor stays");
-        DUE.run("setLoad 8 200", "moveTo 1000 = 1024", "count 6 = 1000", "count 7 = 8", "count 8 = 8", "count 9 = -32",
-            "count 10 = 1024");
+        DUE.run("setLoad 8 200", "moveTo 1000 = 1024", "count 6 = 1000", "count 7 = 8", "count 8 = 8",
+            "count 9 = -32", "count 10 = 1024");
     }
 
     private static void accountsOfMicrostepsAndStalls() {
@@ -237,8 +256,9 @@ public final class MotorEdgesTest {
     private static void accountsOfSlips() {
         DUE.sentence("2 the slips with which the lost ticks became greater, 3 those with which they became less");
         DUE.run(WEAK, LOADED, "moveTo 28 = 0", "account 2 = 0", "account 3 = 0", "moveTo 32 = 64", "account 2 = 1",
-            "account 3 = 0", "moveTo 28 = -64", "account 2 = 1", "account 3 = 1", "moveTo 600 = 576", "account 2 = 10",
-            "account 3 = 1", "moveTo -600 = -1152", "account 2 = 10", "account 3 = 19", "count 10 = -576");
+            "account 3 = 0", "moveTo 28 = -64", "account 2 = 1", "account 3 = 1", "moveTo 600 = 576",
+            "account 2 = 10", "account 3 = 1", "moveTo -600 = -1152", "account 2 = 10", "account 3 = 19",
+            "count 10 = -576");
     }
 
     private static void accountOfTicksWithoutSigns() {
@@ -258,8 +278,8 @@ public final class MotorEdgesTest {
 
     private static void accountRange() {
         DUE.sentence("account: what 0 to 5; INVALID_ARGUMENT if what is out of range");
-        DUE.run("account -1 = INVALID", "account 0 = 0", "account 5 = 0", "account 6 = INVALID", "account MIN = INVALID",
-            "account MAX = INVALID");
+        DUE.run("account -1 = INVALID", "account 0 = 0", "account 5 = 0", "account 6 = INVALID",
+            "account MIN = INVALID", "account MAX = INVALID");
     }
 
     private static void farthestMove() {

@@ -27,6 +27,7 @@ public final class MoveEdgesTest {
         refusedCommandIsTaken();
         refusedCommandAtTheEdge();
         runSavesOneState();
+        commandIsTakenFromTheOthers();
         commandRange();
         commandBeyondTheLast();
         commandErrorsInTheirOrder();
@@ -76,8 +77,8 @@ public final class MoveEdgesTest {
 
     private static void outOfRangeComesBeforeRefused() {
         DUE.sentence("moveTo: INVALID_ARGUMENT, then ILLEGAL_STATE");
-        DUE.run("setComb 0 5", "moveTo 20001 = INVALID", "moveTo 20000 = STATE", "setComb 0 -5", "moveTo 20001 = INVALID",
-            "moveTo -20001 = INVALID", "moveTo -20000 = STATE");
+        DUE.run("setComb 0 5", "moveTo 20001 = INVALID", "moveTo 20000 = STATE", "setComb 0 -5",
+            "moveTo 20001 = INVALID", "moveTo -20001 = INVALID", "moveTo -20000 = STATE");
     }
 
     private static void microstepsRoundedTowardZero() {
@@ -97,8 +98,9 @@ public final class MoveEdgesTest {
     private static void microstepsFromBetween() {
         DUE.sentence("(c - counter) / s: the difference is rounded, wherever the counter stands");
         DUE.run("setNumber 0 1", "moveTo 2 = 0", "setNumber 0 4", "moveTo 5 = 0", "count 6 = 2", "moveTo 6 = 0",
-            "count 6 = 6", "moveTo 3 = 0", "count 6 = 6", "moveTo 2 = 0", "count 6 = 2", "moveTo -1 = 0", "count 6 = 2",
-            "moveTo -2 = 0", "count 6 = -2", "moveTo 1 = 0", "count 6 = -2", "moveTo 2 = 0", "count 6 = 2");
+            "count 6 = 6", "moveTo 3 = 0", "count 6 = 6", "moveTo 2 = 0", "count 6 = 2", "moveTo -1 = 0",
+            "count 6 = 2", "moveTo -2 = 0", "count 6 = -2", "moveTo 1 = 0", "count 6 = -2", "moveTo 2 = 0",
+            "count 6 = 2");
     }
 
     private static void noMicrostep() {
@@ -108,8 +110,9 @@ public final class MoveEdgesTest {
 
     private static void moveToTellsTheLostTicks() {
         DUE.sentence("Returns by how much the lost ticks became greater (below 0: less)");
-        DUE.run("setNumber 1 0", "setLoad 0 1", "moveTo 28 = 0", "moveTo 32 = 64", "moveTo 28 = -64", "moveTo 32 = 64",
-            "moveTo 92 = 0", "moveTo 96 = 64", "count 10 = 128", "moveTo 160 = 64", "count 10 = 192");
+        DUE.run("setNumber 1 0", "setLoad 0 1", "moveTo 28 = 0", "moveTo 32 = 64", "moveTo 28 = -64",
+            "moveTo 32 = 64", "moveTo 92 = 0", "moveTo 96 = 64", "count 10 = 128", "moveTo 160 = 64",
+            "count 10 = 192");
     }
 
     private static void addCommandPlaces() {
@@ -169,9 +172,9 @@ public final class MoveEdgesTest {
     private static void samePriorityInTheOrderAdded() {
         DUE.sentence("of several with the same one that which was added first");
         DUE.run("addCommand 7 5", "addCommand 3 5", "addCommand 9 5", "command 0 0 = 7", "command 1 0 = 3",
-            "command 2 0 = 9", "addCommand 1 6", "addCommand 2 6", "addCommand 8 5", "addCommand 4 4", "addCommand 6 4",
-            "command 0 0 = 1", "command 1 0 = 2", "command 2 0 = 7", "command 3 0 = 3", "command 4 0 = 9",
-            "command 5 0 = 8", "command 6 0 = 4", "command 7 0 = 6");
+            "command 2 0 = 9", "addCommand 1 6", "addCommand 2 6", "addCommand 8 5", "addCommand 4 4",
+            "addCommand 6 4", "command 0 0 = 1", "command 1 0 = 2", "command 2 0 = 7", "command 3 0 = 3",
+            "command 4 0 = 9", "command 5 0 = 8", "command 6 0 = 4", "command 7 0 = 6");
         DUE.run("addCommand 7 9", "addCommand 7 9", "count 17 = 2", "command 1 0 = 7");
         DUE.run("addCommand 7 0", "addCommand 3 0", "command 0 0 = 7", "command 1 0 = 3");
     }
@@ -225,9 +228,9 @@ public final class MoveEdgesTest {
 
     private static void refusedCommandIsTaken() {
         DUE.sentence("it is taken from the others ..; if this is refused, nothing else happens");
-        DUE.run("setComb 19000 0", "setComb 20000 1", "moveTo 40", "addCommand 20000 9", "addCommand 80 8", "run 1 = 1",
-            "count 6 = 40", "account 0 = 10", "count 17 = 1", "command 0 0 = 80", "count 19 = 6", "run 1 = 0",
-            "count 6 = 80");
+        DUE.run("setComb 19000 0", "setComb 20000 1", "moveTo 40", "addCommand 20000 9", "addCommand 80 8",
+            "run 1 = 1", "count 6 = 40", "account 0 = 10", "count 17 = 1", "command 0 0 = 80", "count 19 = 6",
+            "run 1 = 0", "count 6 = 80");
         DUE.run("setComb 19000 0", "setComb 20000 1", "addCommand 80 9", "addCommand 20000 8", "addCommand 40 7",
             "run 2 = 1", "count 6 = 80", "run 1 = 0", "count 6 = 40");
         DUE.run("setComb 19000 0", "setComb 20000 1", "addCommand 20000 8", "addCommand 40 7", "run 2 = 0",
@@ -238,10 +241,10 @@ public final class MoveEdgesTest {
 
     private static void refusedCommandAtTheEdge() {
         DUE.sentence("refused if c is less than -20000 or greater than 20000: of a command, when it is carried out");
-        DUE.run("setNumber 0 1", "setComb 0 5", "addCommand 19996 9", "addCommand 19995 8", "run 1 = 1", "count 6 = 0",
-            "run 1 = 0", "count 6 = 20000");
-        DUE.run("setNumber 0 1", "setComb 0 -5", "addCommand -19996 9", "addCommand -19995 8", "run 1 = 1", "count 6 = 0",
-            "run 1 = 0", "count 6 = -20000");
+        DUE.run("setNumber 0 1", "setComb 0 5", "addCommand 19996 9", "addCommand 19995 8", "run 1 = 1",
+            "count 6 = 0", "run 1 = 0", "count 6 = 20000");
+        DUE.run("setNumber 0 1", "setComb 0 -5", "addCommand -19996 9", "addCommand -19995 8", "run 1 = 1",
+            "count 6 = 0", "run 1 = 0", "count 6 = -20000");
         DUE.run("setComb 0 5", "addCommand 20000 9 = 1", "setComb 0 0", "run 1 = 0", "count 6 = 20000");
     }
 
@@ -249,6 +252,17 @@ public final class MoveEdgesTest {
         DUE.sentence("Every successful call of .. run() .. saves the state that preceded it");
         DUE.run("addCommand 40 1", "addCommand 80 1", "addCommand 120 1", "count 19 = 3", "run 3 = 0", "count 19 = 4",
             "undo = 3", "count 17 = 3", "count 6 = 0", "command 0 0 = 40", "command 2 0 = 120");
+    }
+
+    private static void commandIsTakenFromTheOthers() {
+        DUE.sentence("When a command is carried out, it is taken from the others");
+        DUE.run("addCommand 40 3", "addCommand 80 7", "addCommand 120 5", "addCommand 160 0", "run 1 = 3",
+            "count 6 = 80", "command 0 0 = 120", "command 0 1 = 5", "command 1 0 = 40", "command 1 1 = 3",
+            "command 2 0 = 160", "command 2 1 = 0", "command 3 0 = NONE", "addCommand 200 4 = 4",
+            "command 1 0 = 200", "command 1 1 = 4", "run 2 = 2", "count 6 = 200", "command 0 0 = 40",
+            "command 0 1 = 3", "command 1 1 = 0", "undo = 5", "command 0 1 = 5", "command 3 1 = 0");
+        DUE.run("addCommand 40 3", "keep 0", "addCommand 80 7", "command 0 1 = 7", "back 0", "command 0 0 = 40",
+            "command 0 1 = 3", "undo", "command 0 0 = 80", "command 0 1 = 7", "command 1 1 = 3");
     }
 
     private static void commandRange() {
@@ -274,7 +288,7 @@ public final class MoveEdgesTest {
 
     private static void commandErrorsInTheirOrder() {
         DUE.sentence("command: INVALID_ARGUMENT; NONE is returned only if no error code applies");
-        DUE.run("command 0 2 = INVALID", "command 0 -1 = INVALID", "command MAX 2 = INVALID", "command -1 0 = INVALID",
-            "command -1 2 = INVALID");
+        DUE.run("command 0 2 = INVALID", "command 0 -1 = INVALID", "command MAX 2 = INVALID",
+            "command -1 0 = INVALID", "command -1 2 = INVALID");
     }
 }

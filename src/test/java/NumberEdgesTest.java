@@ -65,8 +65,8 @@ public final class NumberEdgesTest {
         DUE.sentence("A microstep is s ticks long");
         for (int s = 1; s <= 16; s *= 2) {
             DUE.run("setNumber 0 " + s, "moveTo 16 = 0", "count 6 = 16", "count 7 = 16", "account 0 = " + 16 / s,
-                "account 4 = 16", "moveTo " + (16 - s) + " = 0", "count 6 = " + (16 - s), "account 0 = " + (16 / s + 1),
-                "account 4 = " + (16 + s));
+                "account 4 = 16", "moveTo " + (16 - s) + " = 0", "count 6 = " + (16 - s),
+                "account 0 = " + (16 / s + 1), "account 4 = " + (16 + s));
         }
     }
 
@@ -135,8 +135,9 @@ public final class NumberEdgesTest {
     private static void torqueRoundsTowardZero() {
         DUE.sentence("a torque of t - v * d / 100 (\"/\" is the division rounded toward 0)");
         DUE.run("setNumber 3 1", "setNumber 2 99", "count 12 = 100", "setNumber 2 100", "count 12 = 99",
-            "setNumber 2 101", "count 12 = 99", "setNumber 2 199", "count 12 = 99", "setNumber 2 200", "count 12 = 98",
-            "setNumber 3 0", "setNumber 2 1000", "count 12 = 100", "setNumber 3 1", "count 12 = 90");
+            "setNumber 2 101", "count 12 = 99", "setNumber 2 199", "count 12 = 99", "setNumber 2 200",
+            "count 12 = 98", "setNumber 3 0", "setNumber 2 1000", "count 12 = 100", "setNumber 3 1",
+            "count 12 = 90");
     }
 
     private static void torqueIsNotLessThanZero() {

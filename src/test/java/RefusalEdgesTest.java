@@ -101,8 +101,9 @@ public final class RefusalEdgesTest {
         for (String call : calls) {
             DUE.onlyLooks(full(), call, value(full(), call));
         }
-        DUE.run("setNumber 1 0", "setLoad 0 1", "why 64 = 4", "losses 64 5 = 64", "fastest 64 = NONE", "count 2 = 100",
-            "count 1 = 0", "count 3 = 10", "account 0 = 0", "account 1 = 0", "account 2 = 0", "count 9 = 0");
+        DUE.run("setNumber 1 0", "setLoad 0 1", "why 64 = 4", "losses 64 5 = 64", "fastest 64 = NONE",
+            "count 2 = 100", "count 1 = 0", "count 3 = 10", "account 0 = 0", "account 1 = 0", "account 2 = 0",
+            "count 9 = 0");
     }
 
     private static int value(String[] before, String call) {
@@ -114,7 +115,8 @@ public final class RefusalEdgesTest {
     }
 
     private static void firstNamedCode() {
-        DUE.sentence("If several error codes apply, the one that is named first .. is returned; NONE only if none does");
+        DUE.sentence("If several error codes apply, the one that is named first .. is returned; NONE only if "
+            + "none does");
         DUE.refused(full(), "setLoad 20001 -1", "INVALID");
         DUE.refused(full(), "setLoad 5 201", "INVALID");
         DUE.refused(full(), "setComb 20001 100", "INVALID");
@@ -130,8 +132,10 @@ public final class RefusalEdgesTest {
 
     private static void farNumbers() {
         DUE.sentence("INVALID_ARGUMENT: An argument is out of range: the farthest that there are");
-        String[] calls = {"setNumber # 1", "setNumber 0 #", "setNumber 1 #", "setLoad # 1", "setLoad 0 #", "setComb # 1",
-            "setComb 0 #", "setFlag # 0", "setFlag 0 #", "setFlag # #", "appendCharacter #", "moveTo #", "addCommand # 1",
+        String[] calls = {"setNumber # 1", "setNumber 0 #", "setNumber 1 #", "setLoad # 1", "setLoad 0 #",
+            "setComb # 1",
+            "setComb 0 #", "setFlag # 0", "setFlag 0 #", "setFlag # #", "appendCharacter #", "moveTo #",
+            "addCommand # 1",
             "addCommand 1 #", "run #", "home #", "check #", "correct #", "keep #", "back #", "count #", "account #",
             "loadAt #", "errorAt #", "command 0 #", "flag #", "why #", "losses # 1", "losses 0 #", "fastest #",
             "counter #"};
@@ -142,7 +146,7 @@ public final class RefusalEdgesTest {
                 DUE.run(call.replace("#", number) + " = INVALID", "count 19 = 0", "count 18 = 0", "count 20 = 0");
             }
         }
-        DUE.run("command MIN 0 = INVALID", "command MAX 0 = NONE", "command -65536 0 = INVALID", "command 65536 0 = NONE",
-            "setFlag MIN MAX = INVALID", "setFlag MAX MIN = INVALID", "flag 0 = NONE");
+        DUE.run("command MIN 0 = INVALID", "command MAX 0 = NONE", "command -65536 0 = INVALID",
+            "command 65536 0 = NONE", "setFlag MIN MAX = INVALID", "setFlag MAX MIN = INVALID", "flag 0 = NONE");
     }
 }

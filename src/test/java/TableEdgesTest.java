@@ -50,8 +50,8 @@ public final class TableEdgesTest {
     private static void atMostTenLoads() {
         DUE.sentence("There are at most 10 loads; CAPACITY_EXCEEDED if there would be 11 loads");
         DUE.run(points("setLoad", 8, "count 15 = 8", "setLoad 80 8 = -1", "count 15 = 9", "setLoad 90 9 = -1",
-            "count 15 = 10", "setLoad 100 1 = FULL", "setLoad -5 1 = FULL", "setLoad 45 1 = FULL", "setLoad 45 0 = FULL",
-            "count 15 = 10", "loadAt 100 = 9", "loadAt -5 = 0", "loadAt 45 = 4"));
+            "count 15 = 10", "setLoad 100 1 = FULL", "setLoad -5 1 = FULL", "setLoad 45 1 = FULL",
+            "setLoad 45 0 = FULL", "count 15 = 10", "loadAt 100 = 9", "loadAt -5 = 0", "loadAt 45 = 4"));
         DUE.run(points("setLoad", FULL, "setLoad 0 7 = 0", "setLoad 90 8 = 9", "setLoad 50 6 = 5", "count 15 = 10",
             "loadAt 9 = 7", "loadAt 90 = 8", "loadAt 50 = 6", "loadAt 60 = 6", "loadAt 40 = 4"));
         DUE.run(points("setLoad", FULL, "setLoad 90 -1 = 9", "setLoad 95 1 = -1", "setLoad 90 1 = FULL",
@@ -148,8 +148,8 @@ public final class TableEdgesTest {
     private static void atMostTenCombPoints() {
         DUE.sentence("There are at most 10 comb points; CAPACITY_EXCEEDED if there would be 11 comb points");
         DUE.run(points("setComb", 8, "count 16 = 8", "setComb 80 8 = 100", "count 16 = 9", "setComb 90 9 = 100",
-            "count 16 = 10", "setComb 100 1 = FULL", "setComb -5 1 = FULL", "setComb 45 1 = FULL", "setComb 45 0 = FULL",
-            "count 16 = 10", "errorAt 100 = 9", "errorAt -5 = 0", "errorAt 45 = 4"));
+            "count 16 = 10", "setComb 100 1 = FULL", "setComb -5 1 = FULL", "setComb 45 1 = FULL",
+            "setComb 45 0 = FULL", "count 16 = 10", "errorAt 100 = 9", "errorAt -5 = 0", "errorAt 45 = 4"));
         DUE.run(points("setComb", FULL, "setComb 0 7 = 0", "setComb 90 8 = 9", "setComb 50 6 = 5", "count 16 = 10",
             "errorAt 0 = 7", "errorAt 90 = 8", "errorAt 50 = 6", "errorAt 60 = 6", "errorAt 40 = 4"));
         DUE.run(points("setComb", FULL, "setComb 90 100 = 9", "setComb 95 1 = 100", "setComb 90 1 = FULL",
@@ -275,8 +275,8 @@ public final class TableEdgesTest {
 
     private static void errorBetweenNeighboursOnly() {
         DUE.sentence("between two comb points next to one another");
-        DUE.run("setComb 0 0", "setComb 20 20", "setComb 10 90", "errorAt 5 = 45", "errorAt 15 = 55", "errorAt 9 = 81",
-            "errorAt 10 = 90", "errorAt 11 = 83", "setComb 10 100", "errorAt 10 = 10");
+        DUE.run("setComb 0 0", "setComb 20 20", "setComb 10 90", "errorAt 5 = 45", "errorAt 15 = 55",
+            "errorAt 9 = 81", "errorAt 10 = 90", "errorAt 11 = 83", "setComb 10 100", "errorAt 10 = 10");
     }
 
     private static void errorBetweenTheFarthest() {

@@ -88,8 +88,9 @@ public final class TextEdgesTest {
 
     private static void clearTextTellsTheLength() {
         DUE.sentence("clearText: Makes the text empty. Returns the previous length of the text");
-        DUE.run("clearText = 0", "appendCharacter 0 = 1", "clearText = 1", "clearText = 0", "type " + "l".repeat(99),
-            "clearText = 99", "type " + "l".repeat(100), "clearText = 100", "count 18 = 0", "load = 0", "count 19 = 1");
+        DUE.run("clearText = 0", "appendCharacter 0 = 1", "clearText = 1", "clearText = 0",
+            "type " + "l".repeat(99), "clearText = 99", "type " + "l".repeat(100), "clearText = 100",
+            "count 18 = 0", "load = 0", "count 19 = 1");
         DUE.run("type l1:2;", "clearText = 5", "type c3:4;", "load = 1", "count 15 = 0", "errorAt 3 = 4");
     }
 
@@ -147,10 +148,10 @@ public final class TextEdgesTest {
         DUE.sentence("1 to 5 digits");
         load("l:1;", "error 1");
         load("l-:1;", "error 2");
-        DUE.run("type l7:1;l12:2;l123:3;l1234:4;l12345:5;", "load = 5", "loadAt 7 = 1", "loadAt 12 = 2", "loadAt 123 = 3",
-            "loadAt 1234 = 4", "loadAt 12345 = 5", "loadAt 12344 = 4");
-        DUE.run("type c-7:-1;c-12:-2;c-123:-33;c-1234:4;c-12345:5;", "load = 5", "errorAt -7 = -1", "errorAt -12 = -2",
-            "errorAt -123 = -33", "errorAt -1234 = 4", "errorAt -12345 = 5");
+        DUE.run("type l7:1;l12:2;l123:3;l1234:4;l12345:5;", "load = 5", "loadAt 7 = 1", "loadAt 12 = 2",
+            "loadAt 123 = 3", "loadAt 1234 = 4", "loadAt 12345 = 5", "loadAt 12344 = 4");
+        DUE.run("type c-7:-1;c-12:-2;c-123:-33;c-1234:4;c-12345:5;", "load = 5", "errorAt -7 = -1",
+            "errorAt -12 = -2", "errorAt -123 = -33", "errorAt -1234 = 4", "errorAt -12345 = 5");
         load("l123456:1;", "error 6");
         load("l1:/;", "error 3");
         load("l1/:1;", "error 2");
@@ -278,7 +279,8 @@ public final class TextEdgesTest {
             load(kind + "-99999:1;", "error 2");
             load(kind + " - 20001:1;", "error 4");
         }
-        DUE.run("type l20000:200;l-20000:3;", "load = 2", "loadAt 19999 = 3", "loadAt 20000 = 200", "loadAt -20000 = 3");
+        DUE.run("type l20000:200;l-20000:3;", "load = 2", "loadAt 19999 = 3", "loadAt 20000 = 200",
+            "loadAt -20000 = 3");
         DUE.run("type c20000:99;c-20000:-99;", "load = 2", "errorAt 20000 = 99", "errorAt -20000 = -99");
     }
 
@@ -384,8 +386,9 @@ public final class TextEdgesTest {
 
     private static void beside() {
         DUE.sentence("An item sets what it tells beside what there is");
-        DUE.run("setLoad 4 9", "setComb 7 70", "type l3:8;l5:7;c6:60;c8:80;", "load = 4", "count 15 = 3", "count 16 = 3",
-            "loadAt 3 = 8", "loadAt 4 = 9", "loadAt 5 = 7", "errorAt 6 = 60", "errorAt 7 = 70", "errorAt 8 = 80");
+        DUE.run("setLoad 4 9", "setComb 7 70", "type l3:8;l5:7;c6:60;c8:80;", "load = 4", "count 15 = 3",
+            "count 16 = 3", "loadAt 3 = 8", "loadAt 4 = 9", "loadAt 5 = 7", "errorAt 6 = 60", "errorAt 7 = 70",
+            "errorAt 8 = 80");
         DUE.run("setFlag 1 2", "type l3:8;", "load = 1", "flag 0 = 1", "flag 1 = 2");
     }
 
@@ -453,9 +456,10 @@ public final class TextEdgesTest {
         DUE.sentence("in place of one at the same place: this is no 11th one");
         DUE.run("type " + TEN_LOADS + "l0:7;l9:8;l5:6;", "load = 13", "count 15 = 10", "loadAt 0 = 7", "loadAt 9 = 8",
             "loadAt 5 = 6");
-        DUE.run("type " + TEN_POINTS + "c0:7;c9:8;c5:6;", "load = 13", "count 16 = 10", "errorAt 0 = 7", "errorAt 9 = 8",
-            "errorAt 5 = 6");
-        DUE.run("type " + TEN_LOADS, "load", "type l0:7;", "load = 1", "type l-1:7;", "load = error 0", "loadAt 0 = 7");
+        DUE.run("type " + TEN_POINTS + "c0:7;c9:8;c5:6;", "load = 13", "count 16 = 10", "errorAt 0 = 7",
+            "errorAt 9 = 8", "errorAt 5 = 6");
+        DUE.run("type " + TEN_LOADS, "load", "type l0:7;", "load = 1", "type l-1:7;", "load = error 0",
+            "loadAt 0 = 7");
     }
 
     private static void textThatEnds() {
