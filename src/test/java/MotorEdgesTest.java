@@ -16,6 +16,7 @@ public final class MotorEdgesTest {
         loadAtThePlaceOfTheTable();
         loadWhereItBeginsUpward();
         loadWhereItBeginsDownward();
+        loadOnTheOtherSideOfZero();
         loadAtTheTableNotAtTheMotor();
         motorMovesByTheLag();
         motorMovesByZero();
@@ -113,6 +114,16 @@ public final class MotorEdgesTest {
         DUE.run("setLoad -20000 91", "setLoad -40 90", "moveTo -76 = -64", "count 7 = -44", "count 9 = 32",
             "account 1 = 8");
         DUE.run("setLoad -20000 91", "setLoad -39 90", "moveTo -76 = -64", "count 7 = -40", "count 9 = 28",
+            "account 1 = 9");
+    }
+
+    private static void loadOnTheOtherSideOfZero() {
+        DUE.sentence("the load at the place of the table: upward below 0, downward above 0");
+        DUE.run("moveTo -100", "setLoad -48 91", "moveTo -16 = 64", "count 7 = -48", "count 9 = -32", "account 1 = 8");
+        DUE.run("moveTo -100", "setLoad -47 91", "moveTo -16 = 0", "count 7 = -44", "count 9 = 28", "account 1 = 7");
+        DUE.run("moveTo 100", "setLoad 0 91", "setLoad 48 90", "moveTo 12 = -64", "count 7 = 44", "count 9 = 32",
+            "account 1 = 8");
+        DUE.run("moveTo 100", "setLoad 0 91", "setLoad 49 90", "moveTo 12 = -64", "count 7 = 48", "count 9 = 28",
             "account 1 = 9");
     }
 
