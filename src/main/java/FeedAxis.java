@@ -380,37 +380,56 @@ public final class FeedAxis {
         static void copy(int[] from, int[] to) {
             System.arraycopy(from, 0, to, 0, Math.min(from.length, to.length));
         }
-
-        static void openGap(int[] row, int index, int size) {
-            for (int i = size; i > index; i--) {
-                put(row, i, at(row, i - 1));
-            }
-        }
-
-        static void closeGap(int[] row, int index, int size) {
-            for (int i = index; i < size - 1; i++) {
-                put(row, i, at(row, i + 1));
-            }
-        }
     }
 
-    /** Values at places, by ascending place, no two at the same one. */
-    private static final class Points {
-        static final int CAPACITY = 10;
-        private final int[] places;
-        private final int[] values;
+    /** Places, each with a value, one behind the other. The rows are made once. */
+    private abstract static class Placed {
+        final int[] places;
+        final int[] values;
         int size;
 
-        Points() {
-            places = new int[CAPACITY];
-            values = new int[CAPACITY];
+        Placed(int capacity) {
+            int room = Math.max(0, capacity);
+            places = new int[room];
+            values = new int[room];
             size = 0;
         }
 
-        void copyFrom(Points other) {
+        void copyFrom(Placed other) {
             Rows.copy(other.places, places);
             Rows.copy(other.values, values);
             size = other.size;
+        }
+
+        boolean isFull() {
+            return size >= places.length;
+        }
+
+        void insertAt(int index, int place, int value) {
+            for (int i = size; i > index; i--) {
+                Rows.put(places, i, Rows.at(places, i - 1));
+                Rows.put(values, i, Rows.at(values, i - 1));
+            }
+            Rows.put(places, index, place);
+            Rows.put(values, index, value);
+            size++;
+        }
+
+        void removeAt(int index) {
+            for (int i = index; i < size - 1; i++) {
+                Rows.put(places, i, Rows.at(places, i + 1));
+                Rows.put(values, i, Rows.at(values, i + 1));
+            }
+            size--;
+        }
+    }
+
+    /** Loads or comb points: values at places, by ascending place, no two at the same one. */
+    private static final class Points extends Placed {
+        private static final int CAPACITY = 10;
+
+        Points() {
+            super(CAPACITY);
         }
 
         int valueAt(int place, int absent) {
@@ -455,27 +474,22 @@ public final class FeedAxis {
         }
 
         boolean hasRoomFor(int place) {
-            return size < CAPACITY || isAt(lastUpTo(place), place);
+            return !isFull() || isAt(lastUpTo(place), place);
         }
 
         void put(int place, int value) {
             int index = lastUpTo(place);
-            if (!isAt(index, place)) {
-                index++;
-                Rows.openGap(places, index, size);
-                Rows.openGap(values, index, size);
-                Rows.put(places, index, place);
-                size++;
+            if (isAt(index, place)) {
+                Rows.put(values, index, value);
+            } else {
+                insertAt(index + 1, place, value);
             }
-            Rows.put(values, index, value);
         }
 
         void remove(int place) {
             int index = lastUpTo(place);
             if (isAt(index, place)) {
-                Rows.closeGap(places, index, size);
-                Rows.closeGap(values, index, size);
-                size--;
+                removeAt(index);
             }
         }
 
@@ -492,28 +506,12 @@ public final class FeedAxis {
         }
     }
 
-    /** Commands, in the order in which they would be carried out. */
-    private static final class Commands {
+    /** Commands, in the order in which they would be carried out; the values are their priorities. */
+    private static final class Commands extends Placed {
         static final int CAPACITY = 8;
 
-        private final int[] places;
-        private final int[] priorities;
-        int size;
-
         Commands() {
-            places = new int[CAPACITY];
-            priorities = new int[CAPACITY];
-            size = 0;
-        }
-
-        void copyFrom(Commands other) {
-            Rows.copy(other.places, places);
-            Rows.copy(other.priorities, priorities);
-            size = other.size;
-        }
-
-        boolean isFull() {
-            return size >= CAPACITY;
+            super(CAPACITY);
         }
 
         int placeOf(int index) {
@@ -521,7 +519,7 @@ public final class FeedAxis {
         }
 
         int priorityOf(int index) {
-            return Rows.at(priorities, index);
+            return Rows.at(values, index);
         }
 
         void insert(int place, int priority) {
@@ -529,19 +527,13 @@ public final class FeedAxis {
             while (index < size && priorityOf(index) >= priority) {
                 index++;
             }
-            Rows.openGap(places, index, size);
-            Rows.openGap(priorities, index, size);
-            Rows.put(places, index, place);
-            Rows.put(priorities, index, priority);
-            size++;
+            insertAt(index, place, priority);
         }
 
         /** Takes the next command from the others and answers its place. */
         int takeNext() {
             int place = placeOf(0);
-            Rows.closeGap(places, 0, size);
-            Rows.closeGap(priorities, 0, size);
-            size--;
+            removeAt(0);
             return place;
         }
     }

@@ -26,6 +26,7 @@ public final class FaceTest {
         members();
         insideClasses();
         words();
+        lengths();
         DUE.end();
     }
 
@@ -45,16 +46,23 @@ public final class FaceTest {
             String name = method.getName() + " " + method.getParameterCount();
             if (Modifier.isPublic(method.getModifiers())) {
                 names.add(name);
-                boolean plain = method.getReturnType() == int.class && !Modifier.isStatic(method.getModifiers());
-                DUE.is(name + " is an int method", plain ? 1 : 0, 1);
+                DUE.is(name + " is public alone", method.getModifiers(), Modifier.PUBLIC);
+                DUE.is(name + " answers an int", method.getReturnType() == int.class ? 1 : 0, 1);
+                for (Class<?> parameter : method.getParameterTypes()) {
+                    DUE.is(name + " takes ints", parameter == int.class ? 1 : 0, 1);
+                }
             } else if (!method.isSynthetic()) {
                 DUE.is(name + " is private", Modifier.isPrivate(method.getModifiers()) ? 1 : 0, 1);
                 DUE.is(name + " bears a name of its own", isOfTheFace(method.getName()) ? 1 : 0, 0);
             }
         }
         DUE.is("the document's methods", names.equals(new TreeSet<>(Arrays.asList(METHODS))) ? 1 : 0, 1);
+        int constant = Modifier.PUBLIC | Modifier.STATIC | Modifier.FINAL;
         for (Field field : face.getDeclaredFields()) {
-            open += Modifier.isPrivate(field.getModifiers()) ? 0 : 1;
+            if (!Modifier.isPrivate(field.getModifiers())) {
+                open++;
+                DUE.is(field + " is a public constant", field.getModifiers(), constant);
+            }
         }
         DUE.is("the document's constants alone are public", open, 4);
         Constructor<?>[] constructors = face.getDeclaredConstructors();
@@ -74,10 +82,13 @@ public final class FaceTest {
             for (Method method : one.getDeclaredMethods()) {
                 DUE.is(method + " bears a name of its own", isOfTheFace(method.getName()) ? 1 : 0, 0);
             }
+            int fields = 0;
             for (Field field : one.getDeclaredFields()) {
                 int of = field.getModifiers();
                 DUE.is(field + " is not static, or final", !Modifier.isStatic(of) || Modifier.isFinal(of) ? 1 : 0, 1);
+                fields += Modifier.isStatic(of) ? 0 : 1;
             }
+            DUE.is(one + ": some twenty fields at most", fields <= 20 ? 1 : 0, 1);
         }
     }
 
@@ -90,8 +101,13 @@ public final class FaceTest {
         return false;
     }
 
+    private static String source() throws IOException {
+        return Files.readString(Path.of("src/main/java/FeedAxis.java"));
+    }
+
     private static void words() throws IOException {
-        String source = Files.readString(Path.of("src/main/java/FeedAxis.java"));
+        String source = source();
+        DUE.is("signs 1 to 127 alone", source.chars().allMatch(sign -> sign >= 1 && sign <= 127) ? 1 : 0, 1);
         String code = source.replaceAll("(?s)/\\*.*?\\*/", " ").replaceAll("//[^\n]*", " ");
         Pattern ruledOut = Pattern.compile("\\b(throw|throws|try|catch|synchronized|assert|import|package|double"
                 + "|float|protected|native)\\b|->|::");
@@ -104,5 +120,34 @@ public final class FaceTest {
         while (call.find()) {
             DUE.is("library: " + call.group(), library.contains(call.group(2)) ? 1 : 0, 1);
         }
+    }
+
+    /** The length and the parameters of each method; none but the constructors makes an object. */
+    private static void lengths() throws IOException {
+        Pattern header = Pattern.compile("( {4}| {8})([\\w\\[\\]]+ )*(\\w+)\\((.*)\\) \\{");
+        String indent = "";
+        String name = "";
+        int lines = 0;
+        int methods = 0;
+        for (String line : source().split("\n")) {
+            Matcher begins = header.matcher(line);
+            if (name.isEmpty() && begins.matches()) {
+                indent = begins.group(1);
+                name = begins.group(3);
+                lines = 0;
+                methods++;
+                DUE.is(name + " takes at most seven parameters", begins.group(4).split(",").length <= 7 ? 1 : 0, 1);
+            }
+            lines++;
+            if (line.matches(".*\\bnew \\w.*") && !line.matches(" *[/*].*")) {
+                boolean constructor = !name.isEmpty() && Character.isUpperCase(name.charAt(0));
+                DUE.is(name + " makes no object: " + line.trim(), constructor ? 1 : 0, 1);
+            }
+            if (line.equals(indent + "}") && !name.isEmpty()) {
+                DUE.is(name + " has at most sixty lines", lines <= 60 ? 1 : 0, 1);
+                name = "";
+            }
+        }
+        DUE.is("methods were found", methods > 26 ? 1 : 0, 1);
     }
 }
